@@ -1,3 +1,4 @@
+import java.util.function.Function;
 import java.util.function.Supplier;
 
 /** Compares answers with those that are due, and looks at all that an object shows. */
@@ -17,11 +18,15 @@ final class Check {
         System.out.println(what + " answered " + got + ", due is " + want);
     }
 
-    /** A call that throws must throw just this exception and change nothing. */
-    static void refused(String what, MotionPost post, Class<? extends RuntimeException> due, Supplier<?> call) {
-        String before = seen(post);
-        due(what, answer(call), "throws " + due.getSimpleName());
-        due("what is seen after " + what, seen(post), before);
+    /**
+     * A call that throws must throw just this exception and change nothing: what is seen then is what is seen
+     * of an object made alike without that call. (Two objects, since one is used for 512 calls only.)
+     */
+    static void refused(String what, Supplier<MotionPost> made, Class<? extends RuntimeException> due,
+            Function<MotionPost, ?> call) {
+        MotionPost post = made.get();
+        due(what, answer(() -> call.apply(post)), "throws " + due.getSimpleName());
+        due("what is seen after " + what, seen(post), seen(made.get()));
     }
 
     static String answer(Supplier<?> call) {
@@ -74,11 +79,10 @@ final class Check {
         return post.runText();
     }
 
-    /** Sends until so many pictures are sent, by texts, since an object is used for 512 calls only. */
-    static void sendUntil(MotionPost post, int pictures) {
-        while (post.pictureCount() < pictures) {
-            int count = Math.min(40, pictures - post.pictureCount());
-            run(post, "s;".repeat(count).substring(0, 2 * count - 1));
+    /** Sends so many pictures, by texts, since an object is used for 512 calls only. */
+    static void sendMany(MotionPost post, int pictures) {
+        for (int sent = 0; sent < pictures; sent += 40) {
+            run(post, "s;".repeat(Math.min(40, pictures - sent) - 1) + "s");
         }
     }
 

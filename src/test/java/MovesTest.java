@@ -1,3 +1,5 @@
+import java.util.function.Supplier;
+
 /** Promises 13 to 16. */
 public final class MovesTest {
     private static final Class<IndexOutOfBoundsException> NO_SUCH = IndexOutOfBoundsException.class;
@@ -105,15 +107,15 @@ public final class MovesTest {
     }
 
     private static void promises13To16WrongBlocks() {
-        MotionPost post = new MotionPost();
+        Supplier<MotionPost> made = MotionPost::new;
         for (int block : new int[] {-1, 4, Integer.MIN_VALUE, Integer.MAX_VALUE}) {
-            Check.refused("13: distance", post, NO_SUCH, () -> post.distance(block, 12));
-            Check.refused("14: bestMove", post, NO_SUCH, () -> post.bestMove(block));
-            Check.refused("15: bestMoveByStopping", post, NO_SUCH, () -> post.bestMoveByStopping(block));
-            Check.refused("16: equalMoves", post, NO_SUCH, () -> post.equalMoves(block));
+            Check.refused("13: distance", made, NO_SUCH, x -> x.distance(block, 12));
+            Check.refused("14: bestMove", made, NO_SUCH, x -> x.bestMove(block));
+            Check.refused("15: bestMoveByStopping", made, NO_SUCH, x -> x.bestMoveByStopping(block));
+            Check.refused("16: equalMoves", made, NO_SUCH, x -> x.equalMoves(block));
         }
         for (int move : new int[] {-1, 25, Integer.MIN_VALUE, Integer.MAX_VALUE}) {
-            Check.refused("13: distance by move " + move, post, NO_SUCH, () -> post.distance(0, move));
+            Check.refused("13: distance by move " + move, made, NO_SUCH, x -> x.distance(0, move));
         }
     }
 }

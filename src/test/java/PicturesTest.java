@@ -1,3 +1,5 @@
+import java.util.function.Supplier;
+
 /** Promises 1 to 4 and 8 to 12. */
 public final class PicturesTest {
     private static final Class<IndexOutOfBoundsException> NO_SUCH = IndexOutOfBoundsException.class;
@@ -14,7 +16,23 @@ public final class PicturesTest {
         Check.end("PicturesTest");
     }
 
+    /** An object in which each picture has another value in each corner. */
+    private static MotionPost threePictures() {
+        MotionPost post = new MotionPost();
+        post.draw(0, 4);
+        post.draw(63, 5);
+        post.send(false);
+        post.setKeyDistance(1);
+        post.draw(0, 6);
+        post.draw(63, 7);
+        post.send(true);
+        post.draw(0, 8);
+        post.draw(63, 9);
+        return post;
+    }
+
     private static void promise1NewObject() {
+        Supplier<MotionPost> made = MotionPost::new;
         MotionPost post = new MotionPost();
         for (int pixel = 0; pixel < 64; pixel++) {
             Check.due("1: drawnAt " + pixel, post.drawnAt(pixel), 0);
@@ -34,9 +52,9 @@ public final class PicturesTest {
         Check.due("1: isKeyNext", post.isKeyNext(), true);
         Check.due("1: textLength", post.textLength(), 0);
         Check.due("1: undoCount", post.undoCount(), 0);
-        Check.refused("1: undo", post, IllegalStateException.class, () -> post.undo());
-        Check.refused("1: loadState(0)", post, IllegalStateException.class, () -> post.loadState(0));
-        Check.refused("1: loadState(1)", post, IllegalStateException.class, () -> post.loadState(1));
+        Check.refused("1: undo", made, IllegalStateException.class, x -> x.undo());
+        Check.refused("1: loadState(0)", made, IllegalStateException.class, x -> x.loadState(0));
+        Check.refused("1: loadState(1)", made, IllegalStateException.class, x -> x.loadState(1));
         Check.due("1: first budget", post.setBudget(200), 120);
         Check.due("1: first key distance", post.setKeyDistance(3), 8);
         MotionPost other = new MotionPost();
@@ -44,6 +62,7 @@ public final class PicturesTest {
     }
 
     private static void promise2Draw() {
+        Supplier<MotionPost> made = PicturesTest::threePictures;
         MotionPost post = new MotionPost();
         Check.due("2: draw", post.draw(10, 7), 0);
         Check.due("2: draw again", post.draw(10, 3), 7);
@@ -56,15 +75,16 @@ public final class PicturesTest {
         Check.due("2: changes", post.undoCount(), 5);
         Check.due("2: draw the same", post.draw(10, 3), 3);
         Check.due("2: a change all the same", post.undoCount(), 6);
-        Check.refused("2: pixel -1", post, NO_SUCH, () -> post.draw(-1, 0));
-        Check.refused("2: pixel 64", post, NO_SUCH, () -> post.draw(64, 0));
-        Check.refused("2: greatest int", post, NO_SUCH, () -> post.draw(Integer.MAX_VALUE, 0));
-        Check.refused("2: both wrong", post, NO_SUCH, () -> post.draw(64, 16));
-        Check.refused("2: value -1", post, OUT_OF_RANGE, () -> post.draw(0, -1));
-        Check.refused("2: value 16", post, OUT_OF_RANGE, () -> post.draw(0, 16));
+        Check.refused("2: pixel -1", made, NO_SUCH, x -> x.draw(-1, 0));
+        Check.refused("2: pixel 64", made, NO_SUCH, x -> x.draw(64, 0));
+        Check.refused("2: greatest int", made, NO_SUCH, x -> x.draw(Integer.MAX_VALUE, 0));
+        Check.refused("2: both wrong", made, NO_SUCH, x -> x.draw(64, 16));
+        Check.refused("2: value -1", made, OUT_OF_RANGE, x -> x.draw(0, -1));
+        Check.refused("2: value 16", made, OUT_OF_RANGE, x -> x.draw(0, 16));
     }
 
     private static void promise3Fill() {
+        Supplier<MotionPost> made = PicturesTest::threePictures;
         MotionPost post = new MotionPost();
         Check.due("3: fill", post.fill(9, 2, 3, 5), 6);
         for (int pixel = 0; pixel < 64; pixel++) {
@@ -83,18 +103,19 @@ public final class PicturesTest {
         Check.due("3: all", new MotionPost().fill(0, 8, 8, 15), 64);
         Check.due("3: high", new MotionPost().fill(0, 8, 1, 1), 8);
         Check.due("3: wide", new MotionPost().fill(0, 1, 8, 1), 8);
-        Check.refused("3: pixel -1", post, NO_SUCH, () -> post.fill(-1, 1, 1, 0));
-        Check.refused("3: pixel 64", post, NO_SUCH, () -> post.fill(64, 1, 1, 0));
-        Check.refused("3: all wrong", post, NO_SUCH, () -> post.fill(64, 0, 0, 16));
-        Check.refused("3: height 0", post, OUT_OF_RANGE, () -> post.fill(0, 0, 1, 1));
-        Check.refused("3: height 9", post, OUT_OF_RANGE, () -> post.fill(0, 9, 1, 1));
-        Check.refused("3: width 0", post, OUT_OF_RANGE, () -> post.fill(0, 1, 0, 1));
-        Check.refused("3: width 9", post, OUT_OF_RANGE, () -> post.fill(0, 1, 9, 1));
-        Check.refused("3: value -1", post, OUT_OF_RANGE, () -> post.fill(0, 1, 1, -1));
-        Check.refused("3: value 16", post, OUT_OF_RANGE, () -> post.fill(0, 1, 1, 16));
+        Check.refused("3: pixel -1", made, NO_SUCH, x -> x.fill(-1, 1, 1, 0));
+        Check.refused("3: pixel 64", made, NO_SUCH, x -> x.fill(64, 1, 1, 0));
+        Check.refused("3: all wrong", made, NO_SUCH, x -> x.fill(64, 0, 0, 16));
+        Check.refused("3: height 0", made, OUT_OF_RANGE, x -> x.fill(0, 0, 1, 1));
+        Check.refused("3: height 9", made, OUT_OF_RANGE, x -> x.fill(0, 9, 1, 1));
+        Check.refused("3: width 0", made, OUT_OF_RANGE, x -> x.fill(0, 1, 0, 1));
+        Check.refused("3: width 9", made, OUT_OF_RANGE, x -> x.fill(0, 1, 9, 1));
+        Check.refused("3: value -1", made, OUT_OF_RANGE, x -> x.fill(0, 1, 1, -1));
+        Check.refused("3: value 16", made, OUT_OF_RANGE, x -> x.fill(0, 1, 1, 16));
     }
 
     private static void promise4Scroll() {
+        Supplier<MotionPost> made = PicturesTest::threePictures;
         for (int down = -2; down <= 2; down++) {
             for (int right = -2; right <= 2; right++) {
                 scrollOnce(down, right);
@@ -105,10 +126,10 @@ public final class PicturesTest {
         Check.due("4: a change all the same", post.undoCount(), 1);
         post.draw(0, 9);
         Check.due("4: the corner spreads", post.scroll(-2, -2), 8);
-        Check.refused("4: down 3", post, OUT_OF_RANGE, () -> post.scroll(3, 0));
-        Check.refused("4: down -3", post, OUT_OF_RANGE, () -> post.scroll(-3, 0));
-        Check.refused("4: right 3", post, OUT_OF_RANGE, () -> post.scroll(0, 3));
-        Check.refused("4: right -3", post, OUT_OF_RANGE, () -> post.scroll(0, -3));
+        Check.refused("4: down 3", made, OUT_OF_RANGE, x -> x.scroll(3, 0));
+        Check.refused("4: down -3", made, OUT_OF_RANGE, x -> x.scroll(-3, 0));
+        Check.refused("4: right 3", made, OUT_OF_RANGE, x -> x.scroll(0, 3));
+        Check.refused("4: right -3", made, OUT_OF_RANGE, x -> x.scroll(0, -3));
     }
 
     private static void scrollOnce(int down, int right) {
@@ -130,16 +151,8 @@ public final class PicturesTest {
     }
 
     private static void promises8To10PixelsOfThreePictures() {
-        MotionPost post = new MotionPost();
-        post.draw(0, 4);
-        post.draw(63, 5);
-        post.send(false);
-        post.setKeyDistance(1);
-        post.draw(0, 6);
-        post.draw(63, 7);
-        post.send(true);
-        post.draw(0, 8);
-        post.draw(63, 9);
+        Supplier<MotionPost> made = PicturesTest::threePictures;
+        MotionPost post = threePictures();
         Check.due("8: drawnAt 0", post.drawnAt(0), 8);
         Check.due("8: drawnAt 63", post.drawnAt(63), 9);
         Check.due("9: sentAt 0", post.sentAt(0), 6);
@@ -147,9 +160,9 @@ public final class PicturesTest {
         Check.due("10: receivedAt 0", post.receivedAt(0), 4);
         Check.due("10: receivedAt 63", post.receivedAt(63), 5);
         for (int pixel : new int[] {-1, 64, Integer.MIN_VALUE, Integer.MAX_VALUE}) {
-            Check.refused("8: drawnAt " + pixel, post, NO_SUCH, () -> post.drawnAt(pixel));
-            Check.refused("9: sentAt " + pixel, post, NO_SUCH, () -> post.sentAt(pixel));
-            Check.refused("10: receivedAt " + pixel, post, NO_SUCH, () -> post.receivedAt(pixel));
+            Check.refused("8: drawnAt " + pixel, made, NO_SUCH, x -> x.drawnAt(pixel));
+            Check.refused("9: sentAt " + pixel, made, NO_SUCH, x -> x.sentAt(pixel));
+            Check.refused("10: receivedAt " + pixel, made, NO_SUCH, x -> x.receivedAt(pixel));
         }
     }
 
