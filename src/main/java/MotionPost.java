@@ -338,6 +338,8 @@ public final class MotionPost {
         }
         for (int block = 0; block < BLOCKS; block++) {
             sendBlock(block);
+            now.kinds[block] = plan.kindOf(block);
+            now.moves[block] = plan.moveOf(block);
         }
         now.pictures++;
         now.sentBits += plan.bits;
@@ -352,8 +354,6 @@ public final class MotionPost {
                     ? now.drawn.valueAt(pixel)
                     : plan.predicted.valueAt(pixel) + plan.additionAt(pixel));
         }
-        now.kinds[block] = kind;
-        now.moves[block] = plan.moveOf(block);
     }
 
     private void receivePicture() {

@@ -7,6 +7,7 @@ public final class MovesTest {
     public static void main(String[] args) {
         promise13Distance();
         promises14To16NothingToSee();
+        promises14To16FirstAndLastPixel();
         promises14To16Stripes();
         promises14To16Diagonals();
         promises14To16LongMoves();
@@ -55,6 +56,25 @@ public final class MovesTest {
         }
         post.draw(0, 1);
         best(post, 0, 12, 25);
+        post.fill(0, 8, 8, 15);
+        best(post, 0, 12, 25);
+        best(post, 3, 12, 25);
+    }
+
+    private static void promises14To16FirstAndLastPixel() {
+        MotionPost first = new MotionPost();
+        first.draw(45, 5);
+        first.send(false);
+        first.fill(0, 8, 8, 0);
+        first.draw(36, 5);
+        // Other moves take the one bright pixel out of the block, but this one alone to the first pixel of it.
+        best(first, 3, 18, 1);
+        MotionPost last = new MotionPost();
+        last.draw(18, 5);
+        last.send(false);
+        last.fill(0, 8, 8, 0);
+        last.draw(27, 5);
+        best(last, 0, 6, 1);
     }
 
     private static void promises14To16Stripes() {

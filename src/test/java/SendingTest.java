@@ -4,6 +4,7 @@ import java.util.function.Supplier;
 public final class SendingTest {
     private static final Class<IndexOutOfBoundsException> NO_SUCH = IndexOutOfBoundsException.class;
     private static final Class<IllegalArgumentException> OUT_OF_RANGE = IllegalArgumentException.class;
+    private static final int[] BITS_OF_LEVEL = {1, 4, 4, 6, 6, 6, 6, 8, 8, 8, 8, 8, 8, 8, 8, 10};
     private static final int[] FAR = {-1, 4, Integer.MIN_VALUE, Integer.MAX_VALUE};
 
     public static void main(String[] args) {
@@ -18,6 +19,7 @@ public final class SendingTest {
         promises18To20NegativeLevels();
         promises18To20MovedOrRaw();
         promises18To20StillOrMoved();
+        promises18To20OneAfterTheOther();
         promises18To20WrongInputs();
         promises21And22Next();
         promises23To25Counts();
@@ -198,14 +200,13 @@ public final class SendingTest {
     }
 
     private static void promises18To20LevelsOfOnePixel() {
-        int[] bitsOfLevel = {1, 4, 4, 6, 6, 6, 6, 8, 8, 8, 8, 8, 8, 8, 8, 10};
         for (int value = 1; value <= 15; value++) {
             MotionPost post = afterKey();
             post.draw(63, value);
             for (int coarseness = 1; coarseness <= 8; coarseness++) {
                 int level = value / coarseness;
                 with(post, 3, coarseness, level == 0 ? MotionPost.STILL : MotionPost.MOVED,
-                        level == 0 ? 1 : 6 + 15 + bitsOfLevel[level]);
+                        level == 0 ? 1 : 6 + 15 + BITS_OF_LEVEL[level]);
                 with(post, 0, coarseness, MotionPost.STILL, 1);
             }
         }
@@ -224,6 +225,11 @@ public final class SendingTest {
         with(post, 0, 2, MotionPost.MOVED, 27);
         with(post, 0, 4, MotionPost.MOVED, 25);
         with(post, 0, 8, MotionPost.STILL, 1);
+        for (int value = 0; value < 15; value++) {
+            post.draw(63, value);
+            with(post, 3, 1, MotionPost.MOVED, 6 + 15 + BITS_OF_LEVEL[15 - value]);
+        }
+        post.draw(63, 15);
         post.setBudget(30);
         Check.due("5: a negative level", post.send(false), 30);
         Check.due("5: cut off toward 0", post.sentAt(0), 15 - 2 * 3);
@@ -272,6 +278,29 @@ public final class SendingTest {
         post.send(false);
         Check.due("26: moved without additions", post.lastKind(1), MotionPost.MOVED);
         Check.due("27: from one column to the left", post.lastMove(1), 11);
+    }
+
+    private static void promises18To20OneAfterTheOther() {
+        MotionPost post = afterKey();
+        post.draw(63, 15);
+        Check.due("19: bitsWith", post.bitsWith(3, 1), 31);
+        post.draw(63, 1);
+        Check.due("20: bitsByWriting", post.bitsByWriting(3, 1), 25);
+        post.draw(63, 3);
+        Check.due("18: kindWith", post.kindWith(3, 2), MotionPost.MOVED);
+        post.draw(63, 1);
+        Check.due("18: kindWith", post.kindWith(3, 2), MotionPost.STILL);
+        post.fill(36, 4, 4, 15);
+        Check.due("18: kindWith", post.kindWith(3, 2), MotionPost.RAW);
+        Check.due("22: bitsNext", post.bitsNext(), 69);
+        post.undo();
+        Check.due("22: bitsNext", post.bitsNext(), 28);
+        post.undo();
+        Check.due("21: coarsenessNext", post.coarsenessNext(), 1);
+        Check.due("22: bitsNext", post.bitsNext(), 30);
+        Check.due("19: with another coarseness, before sending", post.bitsWith(3, 8), 1);
+        Check.due("5: send", post.send(false), 30);
+        Check.due("9: sent", post.sentAt(63), 3);
     }
 
     private static void promises18To20WrongInputs() {
@@ -329,6 +358,18 @@ public final class SendingTest {
         Check.due("25: undone", post.bitCount(), 264 + 34 + 4);
     }
 
+    private static void keyAfterOthers() {
+        MotionPost post = onePixel();
+        post.send(true);
+        post.setKeyDistance(2);
+        Check.due("5: a key after others", post.send(false), 264);
+        for (int block = 0; block < 4; block++) {
+            Check.due("26: a key after others", post.lastKind(block), MotionPost.RAW);
+            Check.due("27: a key after others", post.lastMove(block), MotionPost.NONE);
+        }
+        Check.due("12: the receiver is back", post.drift(), 0);
+    }
+
     private static void promises26And27LastKindAndMove() {
         MotionPost post = new MotionPost();
         for (int block = 0; block < 4; block++) {
@@ -348,6 +389,7 @@ public final class SendingTest {
         Check.due("26: drawing does not count", post.lastKind(1), MotionPost.STILL);
         post.draw(32, 9);
         Check.due("26: what is drawn is not sent", post.lastKind(2), MotionPost.STILL);
+        keyAfterOthers();
         post.undo();
         post.undo();
         post.undo();
