@@ -141,6 +141,16 @@ public final class EdgesOfForesightTest {
         Check.due("block 3", post.kindWith(3, 1), MotionPost.MOVED);
     }
 
+    static void promise18_askedForAgain_isWhatIsDrawnThen() {
+        MotionPost post = Made.afterKey();
+        Check.due("nothing drawn", post.kindWith(0, 1), MotionPost.STILL);
+        post.fill(0, 4, 4, 15);
+        Check.due("all drawn", post.kindWith(0, 1), MotionPost.RAW);
+        post.fill(0, 4, 4, 0);
+        post.draw(27, 1);
+        Check.due("one pixel drawn", post.kindWith(0, 1), MotionPost.MOVED);
+    }
+
     static void promise18_beforeAKey_isAsIfItWasNone() {
         MotionPost post = new MotionPost();
         Check.due("isKeyNext", post.isKeyNext(), true);

@@ -51,6 +51,16 @@ public final class EdgesOfMovesTest {
         return post;
     }
 
+    /** One pixel is 5 in the picture sent last, another one is drawn; all others are 0 in both. */
+    private static MotionPost onePixel(int sent, int drawn) {
+        MotionPost post = new MotionPost();
+        post.draw(sent, 5);
+        post.send(false);
+        post.draw(sent, 0);
+        post.draw(drawn, 5);
+        return post;
+    }
+
     /** The distance of the block 0 is 1 by a move, and more by all others, which are shorter or of lesser number. */
     private static MotionPost oneApart(int move) {
         MotionPost post = Made.scrolledBy(move);
@@ -192,6 +202,14 @@ public final class EdgesOfMovesTest {
         Check.due("move 24", oneApart(24).bestMove(0), 24);
     }
 
+    static void promise14_firstPixelOfTheBlock_decides() {
+        Check.due("one down and right", onePixel(45, 36).bestMove(3), 18);
+    }
+
+    static void promise14_lastPixelOfTheBlock_decides() {
+        Check.due("one up and left", onePixel(18, 27).bestMove(0), 6);
+    }
+
     static void promise14_noMoveAndTwoUpEquallyGood_isNoMove() {
         Check.due("bestMove", alternatingRows().bestMove(2), 12);
     }
@@ -298,6 +316,14 @@ public final class EdgesOfMovesTest {
         Check.due("bestMoveByStopping", post.bestMoveByStopping(0), 12);
     }
 
+    static void promise15_firstPixelOfTheBlock_decides() {
+        Check.due("one down and right", onePixel(45, 36).bestMoveByStopping(3), 18);
+    }
+
+    static void promise15_lastPixelOfTheBlock_decides() {
+        Check.due("one up and left", onePixel(18, 27).bestMoveByStopping(0), 6);
+    }
+
     static void promise15_noMoveAndTwoUpEquallyGood_isNoMove() {
         Check.due("bestMoveByStopping", alternatingRows().bestMoveByStopping(2), 12);
     }
@@ -347,6 +373,8 @@ public final class EdgesOfMovesTest {
     static void promise16_oneMoveAlone_is1() {
         Check.due("the first move", Made.scrolledBy(0).equalMoves(0), 1);
         Check.due("no move", Made.scrolledBy(12).equalMoves(1), 1);
+        Check.due("one down and right", onePixel(45, 36).equalMoves(3), 1);
+        Check.due("one up and left", onePixel(18, 27).equalMoves(0), 1);
         Check.due("the last move", Made.scrolledBy(24).equalMoves(3), 1);
     }
 

@@ -184,6 +184,26 @@ public final class EdgesOfSentTest {
         Check.due("block 3", threeKinds().lastKind(3), MotionPost.STILL);
     }
 
+    static void promise26_keyBehindOtherKinds_isRawForAllBlocks() {
+        MotionPost post = Made.block(5);
+        post.send(false);
+        Check.due("block 0, before", post.lastKind(0), MotionPost.MOVED);
+        post.setKeyDistance(1);
+        post.send(false);
+        for (int block = 0; block < 4; block++) {
+            Check.due("block " + block, post.lastKind(block), MotionPost.RAW);
+        }
+    }
+
+    static void promise26_rawBehindStill_isRaw() {
+        MotionPost post = Made.afterPictures(2);
+        Check.due("block 3, before", post.lastKind(3), MotionPost.STILL);
+        post.fill(36, 4, 4, 15);
+        post.send(false);
+        Check.due("block 3", post.lastKind(3), MotionPost.RAW);
+        Check.due("sentAt", post.sentAt(63), 15);
+    }
+
     static void promise26_lostPicture_countsToo() {
         MotionPost post = Made.block(5);
         post.send(true);
@@ -243,6 +263,14 @@ public final class EdgesOfSentTest {
         post.setKeyDistance(2);
         post.send(false);
         Check.due("block 2", post.lastMove(2), MotionPost.NONE);
+    }
+
+    static void promise27_rawBehindStill_isNone() {
+        MotionPost post = Made.afterPictures(2);
+        Check.due("block 3, before", post.lastMove(3), 12);
+        post.fill(36, 4, 4, 15);
+        post.send(false);
+        Check.due("block 3", post.lastMove(3), MotionPost.NONE);
     }
 
     static void promise27_onlyPictureUndone_isNoneAgain() {

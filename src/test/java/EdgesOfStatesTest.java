@@ -413,7 +413,7 @@ public final class EdgesOfStatesTest {
         Check.due("key distance", post.setKeyDistance(1), 12);
     }
 
-    // ---- 36: "Throws IndexOutOfBoundsException if there is no such slot", "IllegalStateException if nothing was saved"
+    // ---- 36: "Throws IndexOutOfBoundsException if there is no such slot", "Throws .. if nothing was saved in it"
 
     static void promise36_slotMinus1_throwsIndexOutOfBounds() {
         noSuch(x -> x.loadState(-1));

@@ -283,7 +283,8 @@ public final class EdgesOfTextTest {
         noChange(x -> x.textLength());
     }
 
-    // ---- 31: "the index; the length of the text if it is incomplete (also if it is empty); NONE if the text is correct"
+    // ---- 31: "Returns the index; the length of the text if it is incomplete (also if it is empty); NONE if the text
+    // is correct."
 
     private static void error(String text, int due) {
         Check.due("textError of " + text, Made.withText(text).textError(), due);
