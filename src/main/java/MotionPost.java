@@ -861,9 +861,14 @@ public final class MotionPost {
             }
         }
 
+        private State placeAt(int i) {
+            return i < 0 || i >= MOST_RECORDED ? null : states[i];
+        }
+
         private void record(State state) {
-            if (states[next] != null) {
-                states[next].copyFrom(state);
+            State place = placeAt(next);
+            if (place != null) {
+                place.copyFrom(state);
             }
             next = (next + 1) % MOST_RECORDED;
             count = Math.min(count + 1, MOST_RECORDED);
@@ -872,8 +877,9 @@ public final class MotionPost {
         private void takeBack(State state) {
             next = (next + MOST_RECORDED - 1) % MOST_RECORDED;
             count--;
-            if (states[next] != null) {
-                state.copyFrom(states[next]);
+            State place = placeAt(next);
+            if (place != null) {
+                state.copyFrom(place);
             }
         }
     }
